@@ -221,6 +221,7 @@ public final class CertificatesTest {
         dueIs(10, on(5, 0, 0), on(3, 6, 0), 9);
         dueIs(10, on(5, 0, 0), on(3, -6, 0), 9);
         dueIs(10, on(5, 3, 0), on(8, 3, 0), 100001);
+        dueIs(10, on(1, 3, 0), on(0, 3, 0), 100001);
         dueIs(10, on(5, 3, 0), on(8, 11, 0), 8);
         dueIs(10, on(5, 3, 0), on(8, -11, 0), 8);
         dueIs(10, on(5, 3, 0), on(8, 3, 11), 8);
