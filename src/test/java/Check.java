@@ -1,11 +1,24 @@
-/** Keeps count of the answers that are not as due; each test ends by end(). */
+import java.util.Map;
+import java.util.function.Supplier;
+import java.util.function.ToIntFunction;
+
+/** Keeps count of the answers that are not as due, and prints them under the test's title. */
 final class Check {
+    private final String title;
     private int wrong = 0;
+
+    Check(String title) {
+        this.title = title;
+    }
+
+    int wrong() {
+        return wrong;
+    }
 
     void due(String call, long got, long want) {
         if (got != want) {
             wrong++;
-            System.out.println(call + " answered " + got + ", due is " + want);
+            System.out.println(title + ": " + call + " answered " + got + ", due is " + want);
         }
     }
 
@@ -14,49 +27,54 @@ final class Check {
         due(call + " lower()", x.lower(), lower);
     }
 
-    /** A refusal by a FINDING: the answer is -3, finding() tells which and it is counted once. */
-    void found(String call, BathBook x, int which, java.util.function.IntSupplier run) {
-        int before = x.findings(which);
-        long digest = x.digest();
-        long asked = x.asked();
-        long upper = x.upper();
-        due(call, run.getAsInt(), BathBook.FINDING);
-        due(call + " finding()", x.finding(), which);
-        due(call + " findings()", x.findings(which), before + 1);
-        unchanged(call, x, digest, asked, upper);
+    /** Calls that are refused on a book as make gives it. */
+    Given given(Supplier<BathBook> make) {
+        return new Given(make);
     }
 
-    /** A refusal by BAD, FULL or STATE, or an answer of NONE: nothing changes. */
-    void refused(String call, BathBook x, int answer, java.util.function.IntSupplier run) {
-        int finding = x.finding();
-        int sum = findingSum(x);
-        long digest = x.digest();
-        long asked = x.asked();
-        long upper = x.upper();
-        due(call, run.getAsInt(), answer);
-        due(call + " finding()", x.finding(), finding);
-        due(call + " findings()", findingSum(x), sum);
-        unchanged(call, x, digest, asked, upper);
-    }
+    /** Each refused call is made on one of two like books: the other one shows what has to stay. */
+    final class Given {
+        private static final int NO_FINDING = 0;
 
-    private void unchanged(String call, BathBook x, long digest, long asked, long upper) {
-        due(call + " digest()", x.digest(), digest);
-        due(call + " asked()", x.asked(), asked);
-        due(call + " upper()", x.upper(), upper);
-    }
+        private final Supplier<BathBook> make;
 
-    private static int findingSum(BathBook x) {
-        int sum = 0;
-        for (int f = 1; f <= 5; f++) {
-            sum += x.findings(f);
+        private Given(Supplier<BathBook> make) {
+            this.make = make;
         }
-        return sum;
-    }
 
-    void end() {
-        if (wrong != 0) {
-            System.out.println(wrong + " answers are not as due");
-            System.exit(1);
+        void bad(String call, ToIntFunction<BathBook> run) {
+            stays(call, BathBook.BAD, NO_FINDING, run);
+        }
+
+        void full(String call, ToIntFunction<BathBook> run) {
+            stays(call, BathBook.FULL, NO_FINDING, run);
+        }
+
+        void state(String call, ToIntFunction<BathBook> run) {
+            stays(call, BathBook.STATE, NO_FINDING, run);
+        }
+
+        void none(String call, ToIntFunction<BathBook> run) {
+            stays(call, BathBook.NONE, NO_FINDING, run);
+        }
+
+        void finds(int which, String call, ToIntFunction<BathBook> run) {
+            stays(call, BathBook.FINDING, which, run);
+        }
+
+        private void stays(String call, int answer, int which, ToIntFunction<BathBook> run) {
+            BathBook called = make.get();
+            BathBook left = make.get();
+            due(call, run.applyAsInt(called), answer);
+            due(call + " finding()", called.finding(), which == NO_FINDING ? left.finding() : which);
+            for (int f = 1; f <= 5; f++) {
+                due(call + " findings(" + f + ")", called.findings(f), left.findings(f) + (f == which ? 1 : 0));
+            }
+            Map<String, Long> had = Snapshot.of(left);
+            Map<String, Long> has = Snapshot.of(called);
+            for (String asked : had.keySet()) {
+                due(call + ", then " + asked, has.get(asked), had.get(asked));
+            }
         }
     }
 }
