@@ -33,10 +33,20 @@ final class Promises {
             System.out.println(title + ": the document does not say so");
         }
         if (!onlyQuotes) {
-            Check check = new Check(title);
-            test.accept(check);
-            wrong += check.wrong();
+            run(title, test);
         }
+    }
+
+    /** No call may throw: one that does is told under its test, and the others still run. */
+    private void run(String title, Consumer<Check> test) {
+        Check check = new Check(title);
+        try {
+            test.accept(check);
+        } catch (RuntimeException e) {
+            wrong++;
+            System.out.println(title + ": threw " + e);
+        }
+        wrong += check.wrong();
     }
 
     void terms(String words, Consumer<Check> test) {
