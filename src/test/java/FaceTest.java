@@ -4,8 +4,10 @@ import java.lang.reflect.Method;
 import java.lang.reflect.Modifier;
 import java.nio.file.Files;
 import java.nio.file.Path;
+import java.util.ArrayList;
 import java.util.Arrays;
 import java.util.HashSet;
+import java.util.List;
 import java.util.Set;
 import java.util.TreeSet;
 import java.util.regex.Matcher;
@@ -27,6 +29,10 @@ public final class FaceTest {
     private static final Pattern RULED_OUT = Pattern.compile(
         "\\b(throws?|try|catch|synchronized|assert|package|float|double|protected|System\\.(?!arraycopy)\\w+"
             + "|\\w+Exact|new Random)\\b|->|::");
+    private static final Pattern METHOD = Pattern.compile(
+        "(?ms)^( +)[^\n=;]*?(\\w+)\\([^\n]*\\) \\{\n(.*?)^\\1\\}");
+    private static final int MOST_PARAMETERS = 7, MOST_LINES = 60, MOST_FIELDS = 20, MOST_CLASSES = 12;
+    private static final Set<Class<?>> LIBRARY = Set.of(String.class, StringBuilder.class, ArrayList.class, List.class);
     private static int wrong = 0;
 
     private static void holds(String what, boolean so) {
@@ -56,11 +62,44 @@ public final class FaceTest {
             }
         }
         holds("the methods are " + open, open.equals(new TreeSet<>(Arrays.asList(FACE))));
-        for (Method m : BathBook.class.getDeclaredMethods()) {
-            holds(m + " bears a public name",
-                !Modifier.isPrivate(m.getModifiers()) || !publicNames.contains(m.getName()));
-            holds(m + " takes more than seven", m.getParameterCount() <= 7);
+        for (Class<?> type : all()) {
+            for (Method m : type.getDeclaredMethods()) {
+                holds("rule 1: " + m + " bears a public name",
+                    !Modifier.isPrivate(m.getModifiers()) || !publicNames.contains(m.getName()));
+                holds("rule 11: " + m + " takes too many", m.getParameterCount() <= MOST_PARAMETERS);
+            }
         }
+    }
+
+    /** BathBook and the classes inside it. */
+    private static List<Class<?>> all() {
+        List<Class<?>> types = new ArrayList<>(Arrays.asList(BathBook.class.getDeclaredClasses()));
+        types.add(BathBook.class);
+        return types;
+    }
+
+    private static Class<?> elementOf(Class<?> type) {
+        return type.isArray() ? type.getComponentType() : type;
+    }
+
+    private static boolean isConstant(Class<?> type) {
+        return type == String.class || elementOf(type).isPrimitive();
+    }
+
+    private static boolean isOfTheLanguage(Class<?> type) {
+        return LIBRARY.contains(type) || all().contains(elementOf(type)) || elementOf(elementOf(type)).isPrimitive();
+    }
+
+    private static void fieldsOf(Class<?> type) {
+        int held = 0;
+        for (Field f : type.getDeclaredFields()) {
+            boolean fixed = Modifier.isStatic(f.getModifiers());
+            held += fixed ? 0 : 1;
+            holds("rule 5: " + f + " is static and not final", !fixed || Modifier.isFinal(f.getModifiers()));
+            holds("rule 5: " + f + " is no constant", !fixed || isConstant(f.getType()));
+            holds("rule 3: " + f + " is of another type", isOfTheLanguage(f.getType()));
+        }
+        holds("rule 11: " + type + " has too many fields", held <= MOST_FIELDS);
     }
 
     private static void fields() {
@@ -72,8 +111,8 @@ public final class FaceTest {
                 holds(f + " is no public constant int", f.getType() == int.class
                     && Modifier.isPublic(is) && Modifier.isStatic(is) && Modifier.isFinal(is));
             }
-            holds(f + " is static and not final", !Modifier.isStatic(is) || Modifier.isFinal(is));
         }
+        all().forEach(FaceTest::fieldsOf);
         holds("the constants are " + open,
             open.equals(new TreeSet<>(Arrays.asList("BAD", "FULL", "FINDING", "STATE", "NONE"))));
     }
@@ -89,7 +128,7 @@ public final class FaceTest {
             holds(inner + " is not static", Modifier.isStatic(how));
             holds(inner + " is open", !Modifier.isPublic(how) && !Modifier.isProtected(how));
         }
-        holds("there are more than twelve classes", BathBook.class.getDeclaredClasses().length < 12);
+        holds("rule 11: there are too many classes", all().size() <= MOST_CLASSES);
     }
 
     private static void source() throws Exception {
@@ -101,6 +140,22 @@ public final class FaceTest {
         }
         for (String line : code.split("\n")) {
             holds(line, !line.startsWith("import ") || line.equals("import java.util.Arrays;"));
+        }
+        methodLengths(text);
+    }
+
+    private static void methodLengths(String text) {
+        Set<String> seen = new HashSet<>();
+        Matcher method = METHOD.matcher(text);
+        while (method.find()) {
+            seen.add(method.group(2));
+            holds("rule 11: " + method.group(2) + " is too long",
+                method.group(3).chars().filter(c -> c == '\n').count() <= MOST_LINES);
+        }
+        for (Class<?> type : all()) {
+            for (Method m : type.getDeclaredMethods()) {
+                holds(m + " was not found in the text", seen.contains(m.getName()));
+            }
         }
     }
 
